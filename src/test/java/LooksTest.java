@@ -188,6 +188,33 @@ public final class LooksTest {
         Check.due("a ghost does not flicker, nor what has no time", x.count(11), 0);
     }
 
+    private static void flickerOfTheFirstSegment() {
+        LitDigits x = Check.showing("8");
+        for (int segment = 1; segment < 7; segment++) {
+            x.burn(0, segment);
+        }
+        Check.due("the segment 0 alone, 840 to 5", x.count(11), 835);
+    }
+
+    /** Each look is asked first behind a change, when nothing has been looked at since. */
+    private static void looksBehindAChange() {
+        LitDigits told = Check.showing("8-.1___");
+        told.digest();
+        for (int what = 0; what < 13; what++) {
+            Check.due("count " + what, Check.showing("8-.1___").count(what), told.count(what));
+        }
+        for (int slot = 0; slot < 6; slot++) {
+            for (int what = 0; what < 10; what++) {
+                Check.due("slotOf", Check.showing("8-.1___").slotOf(slot, what), told.slotOf(slot, what));
+            }
+            for (int what = 0; what < 4; what++) {
+                Check.due("segmentOf", Check.showing("8-.1___").segmentOf(slot, 6, what), told.segmentOf(slot, 6, what));
+            }
+        }
+        Check.dueDouble("meanBrightness", Check.showing("8-.1___").meanBrightness(), told.meanBrightness());
+        Check.due("write", Check.showing("8-.1___").write(), 7);
+    }
+
     private static void setting() {
         LitDigits x = new LitDigits();
         x.set(2, 9);
@@ -208,6 +235,8 @@ public final class LooksTest {
         count();
         countsReadWithoutDots();
         flickerIsOfWorkingSegments();
+        flickerOfTheFirstSegment();
+        looksBehindAChange();
         setting();
         Check.end();
     }

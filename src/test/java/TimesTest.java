@@ -188,6 +188,15 @@ public final class TimesTest {
         Check.due("no ghost of a slot that shows nothing", x.segmentOf(0, 3, 0), 168);
     }
 
+    private static void noGhostsWithoutTime() {
+        LitDigits x = Check.showing("8-1");
+        x.set(0, 0);
+        Check.times(x, 2, 0, 2, 0, 0, 0);
+        x.pass(4);
+        Check.due("a slot without time is never lit first", x.segmentOf(1, 0, 0), 0);
+        Check.due("nor seen", x.slotOf(1, 6), 0);
+    }
+
     private static void ghostsAround() {
         LitDigits x = Check.showing("8____-.");
         x.set(0, 0);
@@ -225,6 +234,7 @@ public final class TimesTest {
         passFadesWithoutLight();
         mostTicks();
         ghosts();
+        noGhostsWithoutTime();
         ghostsAround();
         Check.end();
     }
