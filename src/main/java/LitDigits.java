@@ -33,6 +33,7 @@ public final class LitDigits {
     private static final int MOST_TICKS_A_PASS = 200;
     private static final int MOST_TICKS = 99999;
     private static final int ROUNDS_SEEN = 8;
+    private static final int ABOVE_ALL_GLOWS = 1 << 30;
 
     private static final int MOST_CODES = 12;
     private static final int LEAST_CODE = 33;
@@ -506,7 +507,7 @@ public final class LitDigits {
 
     private int unevenness() {
         int most = 0;
-        int least = Integer.MAX_VALUE;
+        int least = ABOVE_ALL_GLOWS;
         for (int slot = 0; slot < SLOTS; slot++) {
             if (now.works(slot) != 0) {
                 eye.look(slot);
@@ -827,7 +828,7 @@ public final class LitDigits {
                 int before = glow;
                 sum = 0;
                 most = 0;
-                fewest = length > 0 ? Integer.MAX_VALUE : 0;
+                fewest = length > 0 ? ABOVE_ALL_GLOWS : 0;
                 for (int tick = 0; tick < length; tick++) {
                     glow = turn.glowBehind(tick, glow, segment);
                     sum += glow;

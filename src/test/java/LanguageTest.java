@@ -8,7 +8,7 @@ import java.util.regex.Pattern;
 public final class LanguageTest {
     private static final String[] FORBIDDEN = {
         "^package ", "^import ", "->", "::", "\\bcatch\\b", "\\bfinally\\b", "\\bsynchronized\\b", "\\bassert\\b",
-        "\\bstatic \\{", "\\bDouble\\.", "\\bFloat\\.", "Exact\\(", "\\bvar\\b", "\\bObject\\b", "\\bMath\\.random",
+        "\\bstatic \\{", "\\bDouble\\.", "\\bFloat\\.", "\\bInteger\\.M", "Exact\\(", "\\bvar\\b", "\\bObject\\b", "\\bMath\\.random",
         "\\bSystem\\.(?!arraycopy)", "\\.hashCode\\(", "\\.toString\\(", "\\bThread\\b", "\\bException\\b",
         "\\bThrowable\\b", "\\bError\\b", "\\bNullPointerException\\b", "\" \\+", "\\+ \"", "\\binstanceof\\b",
     };

@@ -152,7 +152,7 @@ public final class TimesTest {
     }
 
     private static void mostTicks() {
-        LitDigits x = Check.showing("8");
+        LitDigits x = new LitDigits();
         for (int i = 0; i < 499; i++) {
             x.pass(200);
         }

@@ -134,59 +134,25 @@ public final class WouldBeTest {
         Check.dueDouble("without ticks", x.meanBrightness(), 0.0f);
     }
 
-    private static long digestOf(LitDigits x, String buffer, int kept0, int kept1) {
-        long hash = 3347;
-        for (int what = 0; what <= 12; what++) {
-            hash = 31 * hash + x.count(what);
-        }
-        for (int setting = 0; setting <= 3; setting++) {
-            hash = 31 * hash + x.setting(setting);
-        }
-        for (int slot = 0; slot <= 5; slot++) {
-            for (int what = 0; what <= 9; what++) {
-                hash = 31 * hash + x.slotOf(slot, what);
-            }
-            for (int segment = 0; segment <= 7; segment++) {
-                for (int what = 0; what <= 3; what++) {
-                    hash = 31 * hash + x.segmentOf(slot, segment, what);
-                }
-            }
-            hash = 31 * hash + x.couldBe(slot, 0);
-            hash = 31 * hash + x.couldBe(slot, 1);
-            hash = 31 * hash + x.ifBalanced(20, slot);
-            hash = 31 * hash + x.safest(slot);
-        }
-        hash = 31 * hash + x.ifTimed(0, 5);
-        hash = 31 * hash + Double.doubleToLongBits(x.litShare());
-        hash = 31 * hash + Float.floatToIntBits(x.meanBrightness());
-        hash = 31 * hash + kept0;
-        hash = 31 * hash + kept1;
-        hash = 31 * hash + buffer.length();
-        for (int i = 0; i < buffer.length(); i++) {
-            hash = 31 * hash + buffer.charAt(i);
-        }
-        return hash;
-    }
-
     private static void digest() {
         LitDigits x = new LitDigits();
-        Check.due("digest of a new object", x.digest(), digestOf(x, "", 0, 0));
+        Check.due("digest of a new object", x.digest(), Check.digestOf(x, "", 0, 0));
         x.keep(1);
         Check.type(x, "~!12");
-        Check.due("digest with a snapshot and a buffer", x.digest(), digestOf(x, "~!12", 0, 1));
+        Check.due("digest with a snapshot and a buffer", x.digest(), Check.digestOf(x, "~!12", 0, 1));
         x.keep(0);
-        Check.due("digest with both", x.digest(), digestOf(x, "~!12", 1, 1));
+        Check.due("digest with both", x.digest(), Check.digestOf(x, "~!12", 1, 1));
         for (int power = 1; power <= 2000; power += 53) {
             LitDigits y = Check.showing("8.1_-A3.");
             y.set(1, power);
             y.set(0, power % 4);
             y.time(power % 6, power % 21);
             y.pass(power % 200 + 1);
-            Check.due("digest with power " + power, y.digest(), digestOf(y, "", 0, 0));
-            Check.due("digest changes nothing", y.digest(), digestOf(y, "", 0, 0));
+            Check.due("digest with power " + power, y.digest(), Check.digestOf(y, "", 0, 0));
+            Check.due("digest changes nothing", y.digest(), Check.digestOf(y, "", 0, 0));
         }
         Check.times(x, 0, 0, 0, 0, 0, 0);
-        Check.due("digest without ticks", x.digest(), digestOf(x, "~!12", 1, 1));
+        Check.due("digest without ticks", x.digest(), Check.digestOf(x, "~!12", 1, 1));
     }
 
     public static void main(String[] args) {
